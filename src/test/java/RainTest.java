@@ -44,6 +44,7 @@ public final class RainTest {
             addShower 9 1 1 = 8 | addShower 10 1 1 = 9 | addShower 11 1 1 = 10 | addShower 0 1 1 = 0
             addShower 0 1 1 = -3 | addShower 0 1 201 = -1 | count 1 = 12 | count 11 = 5
             run 1 = 0 | addShower 1 1 1 = 1 | addShower 1 1 1 = -3
+            cancel 0 = 11 | undo = 4 | addShower 1 1 1 = -3 | undo = 3 | cancel 11 = -1 | count 1 = 11
             """);
     }
 

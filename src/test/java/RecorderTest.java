@@ -91,7 +91,7 @@ public final class RecorderTest {
             run 60 = 60 | count 2 = 60 | mark 0 0 = 0 | mark 59 0 = 59
             run 1 = 1 | count 2 = 60 | mark 0 0 = 1 | mark 59 0 = 60 | mark 59 2 = 50 | mark 58 2 = 0
             run 2 = 2 | mark 0 0 = 3 | mark 0 1 = 3 | mark 57 2 = 50 | mark 56 2 = 0 | mark 60 0 = -1 | undo = 4
-            mark 0 0 = 1 | mark 59 1 = 60
+            mark 0 0 = 1 | mark 59 1 = 60 | mark 59 2 = 50 | mark 58 2 = 0
             """);
     }
 }

@@ -66,11 +66,12 @@ final class Script {
         return length;
     }
 
-    static int invoke(RainRecorder recorder, String name, Object... values) {
+    /** Calls a method of the recorder or of the model by its name. */
+    static int invoke(Object target, String name, Object... values) {
         try {
-            for (Method method : RainRecorder.class.getMethods()) {
+            for (Method method : target.getClass().getDeclaredMethods()) {
                 if (method.getName().equals(name) && method.getParameterCount() == values.length) {
-                    return (Integer) method.invoke(recorder, values);
+                    return (Integer) method.invoke(target, values);
                 }
             }
         } catch (ReflectiveOperationException e) {

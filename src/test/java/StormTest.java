@@ -92,7 +92,8 @@ public final class StormTest {
             capacityFor 1 0 = 100 | capacityFor 1 79 = 21 | capacityFor 1 80 = 20
             capacityFor 2 0 = 200 | capacityFor 2 99 = 101 | capacityFor 2 100 = 100 | capacityFor 2 120 = 80
             capacityFor 3 0 = 300 | capacityFor 3 99 = 201 | capacityFor 3 100 = 200 | capacityFor 1000 0 = 300
-            count 20 = 100 | count 5 = 0 | count 11 = 2 | set 1 0 = 2 | capacityFor 3 0 = 100 | run 1 = 1
+            count 20 = 100 | count 5 = 0 | count 11 = 2 | set 1 0 = 2 | capacityFor 3 0 = 100
+            undo = 2 | run 2 = 1 | account 2 = 0 | account 3 = 100 | capacityFor 1 99 = -4 | capacityFor 1 100 = 20
             """);
         Script.play("capacityFor, content and film of the present", """
             set 2 50 = 10 | addShower 0 1 140 = 0 | addShower 2 1 20 = 1 | run 1 = 0 | count 5 = 90

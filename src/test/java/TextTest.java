@@ -38,6 +38,7 @@ public final class TextTest {
 
     private static void faultless() {
         Script.play("no text", "fault 0 = -4 | fault 1 = -4 | fault 2 = -1 | fault -1 = -1");
+        Script.play("what was cleared", "write 0+1*1; = 6 | clearText = 6 | write 0+1*1 = 5 | fault 1 = 2 | clearText = 5 | lay = 0");
         for (String text : new String[] {"0+1*1;", "5000+500*200;", "0000+0001*0001;", "7+8*9;1+2*3;"}) {
             Script.play("no fault of " + text, "write %s = %d | fault 0 = -4 | fault 1 = -4 | fault 2 = -1".formatted(
                     text, text.length()));
