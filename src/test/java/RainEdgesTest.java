@@ -46,18 +46,26 @@ public final class RainEdgesTest {
         Script.play("a reserve, initially that of the setting", "count 7 = 500 | count 26 = 500 | untilStop = 500");
         Script.play("its count is initially 0", "count 8 = 0 | count 9 = 0");
         Script.play("a text, initially empty", "count 12 = 0 | fault 0 = -4 | clearText = 0");
-        Script.play("the accounts of a new object", "account 0 = 0 | account 1 = 0 | account 2 = 0 | account 3 = 0 | account 4 = 0");
+        Script.play("the accounts of a new object", """
+            account 0 = 0 | account 1 = 0 | account 2 = 0 | account 3 = 0 | account 4 = 0
+            """);
         Script.play("two objects know nothing of each other", "addShower 0 1 1 = 0 | set 0 20 = 100 | write a = 1");
-        Script.play("two objects know nothing of each other", "count 1 = 0 | count 20 = 100 | count 12 = 0 | count 11 = 0");
+        Script.play("two objects know nothing of each other", """
+            count 1 = 0 | count 20 = 100 | count 12 = 0 | count 11 = 0
+            """);
     }
 
     private static void presentTick() {
         Script.play("the present tick is at most 5000", TO_4000 + "run 1000 = 0 | count 0 = 5000");
-        Script.play("the present tick would be greater than 5000", TO_5000 + "run 1 = -3 | count 0 = 5000 | run 1000 = -3");
+        Script.play("the present tick would be greater than 5000", TO_5000 + """
+            run 1 = -3 | count 0 = 5000 | run 1000 = -3
+            """);
         Script.play("the present tick would be greater than 5000 by one", TO_4000 + """
             run 1 = 0 | run 1000 = -3 | count 0 = 4001 | run 999 = 0 | count 0 = 5000
             """);
-        Script.play("the last tick but one", TO_4000 + "run 999 = 0 | run 2 = -3 | run 1 = 0 | run 1 = -3 | count 0 = 5000");
+        Script.play("the last tick but one", TO_4000 + """
+            run 999 = 0 | run 2 = -3 | run 1 = 0 | run 1 = -3 | count 0 = 5000
+            """);
         Script.play("the last tick that goes by is 4999, and its rain falls", TO_4000 + """
             addShower 4999 2 7 = 0 | run 999 = 0 | account 0 = 0 | run 1 = 0 | account 0 = 7 | run 1 = -3 | account 0 = 7
             """);
@@ -65,7 +73,9 @@ public final class RainEdgesTest {
     }
 
     private static void numberOfShowers() {
-        Script.play("there are at most 12 showers: the 12th", showers(12, 20) + "count 1 = 12 | shower 11 0 = 20 | shower 12 0 = -1");
+        Script.play("there are at most 12 showers: the 12th", showers(12, 20) + """
+            count 1 = 12 | shower 11 0 = 20 | shower 12 0 = -1
+            """);
         Script.play("LIMIT_REACHED if there are 12", showers(12, 20) + """
             addShower 20 1 1 = -3 | addShower 0 1 1 = -3 | addShower 5000 500 200 = -3 | count 1 = 12 | shower 0 0 = 20
             """);
@@ -79,15 +89,21 @@ public final class RainEdgesTest {
         Script.play("a shower that has ended leaves room for one", showers(11, 20) + """
             addShower 0 1 1 = 0 | addShower 1 1 1 = -3 | run 1 = 0 | addShower 1 1 1 = 0 | addShower 1 1 1 = -3
             """);
-        Script.play("an undone shower leaves room for one", showers(12, 20) + "undo = 4 | addShower 21 1 1 = 11 | addShower 21 1 1 = -3");
+        Script.play("an undone shower leaves room for one", showers(12, 20) + """
+            undo = 4 | addShower 21 1 1 = 11 | addShower 21 1 1 = -3
+            """);
         Script.play("a shower that has begun but not ended leaves none", showers(11, 20) + """
             addShower 0 2 1 = 0 | run 1 = 0 | addShower 1 1 1 = -3 | run 1 = 0 | addShower 2 1 1 = 0
             """);
     }
 
     private static void orderOfShowers() {
-        Script.play("in the order of their begins: ahead of all", "addShower 5 1 1 = 0 | addShower 4 1 2 = 0 | shower 0 2 = 2 | shower 1 2 = 1");
-        Script.play("in the order of their begins: behind all", "addShower 5 1 1 = 0 | addShower 6 1 2 = 1 | shower 0 2 = 1 | shower 1 2 = 2");
+        Script.play("in the order of their begins: ahead of all", """
+            addShower 5 1 1 = 0 | addShower 4 1 2 = 0 | shower 0 2 = 2 | shower 1 2 = 1
+            """);
+        Script.play("in the order of their begins: behind all", """
+            addShower 5 1 1 = 0 | addShower 6 1 2 = 1 | shower 0 2 = 1 | shower 1 2 = 2
+            """);
         Script.play("in the order of their begins: between", """
             addShower 4 1 1 = 0 | addShower 6 1 2 = 1 | addShower 5 9 3 = 1
             shower 0 0 = 4 | shower 1 0 = 5 | shower 1 1 = 9 | shower 1 2 = 3 | shower 2 0 = 6
@@ -96,20 +112,32 @@ public final class RainEdgesTest {
             addShower 5 1 1 = 0 | addShower 5 1 2 = 1 | addShower 6 1 9 = 2 | addShower 5 1 3 = 2 | addShower 4 1 8 = 0
             shower 0 2 = 8 | shower 1 2 = 1 | shower 2 2 = 2 | shower 3 2 = 3 | shower 4 2 = 9
             """);
-        Script.play("the 12th ahead of all others", showers(11, 20) + "addShower 0 2 3 = 0 | shower 0 1 = 2 | shower 11 0 = 20");
-        Script.play("neither the length nor the rate orders", "addShower 5 500 200 = 0 | addShower 5 1 1 = 1 | shower 0 1 = 500");
+        Script.play("the 12th ahead of all others", showers(11, 20) + """
+            addShower 0 2 3 = 0 | shower 0 1 = 2 | shower 11 0 = 20
+            """);
+        Script.play("neither the length nor the rate orders", """
+            addShower 5 500 200 = 0 | addShower 5 1 1 = 1 | shower 0 1 = 500
+            """);
     }
 
     private static void rangesOfShowers() {
         Script.play("begin: the present tick at the least", "addShower 0 1 1 = 0 | addShower -1 1 1 = -1");
-        Script.play("begin: the present tick later on", "run 10 = 0 | addShower 9 1 1 = -1 | count 1 = 0 | addShower 10 1 1 = 0");
+        Script.play("begin: the present tick later on", """
+            run 10 = 0 | addShower 9 1 1 = -1 | count 1 = 0 | addShower 10 1 1 = 0
+            """);
         Script.play("begin: 5000 at the most", "addShower 5001 1 1 = -1 | addShower 5000 1 1 = 0 | shower 0 0 = 5000");
         Script.play("begin at the tick 5000", TO_5000 + """
             addShower 4999 1 1 = -1 | addShower 5001 1 1 = -1 | addShower 5000 500 200 = 0 | count 13 = 200 | shower 0 3 = 500
             """);
-        Script.play("length: 1 at the least", "addShower 0 0 1 = -1 | addShower 0 -1 1 = -1 | addShower 0 1 1 = 0 | shower 0 1 = 1");
-        Script.play("length: 500 at the most", "addShower 0 501 1 = -1 | addShower 0 500 1 = 0 | shower 0 1 = 500 | shower 0 3 = 500");
-        Script.play("rate: 1 at the least", "addShower 0 1 0 = -1 | addShower 0 1 -1 = -1 | addShower 0 1 1 = 0 | count 13 = 1");
+        Script.play("length: 1 at the least", """
+            addShower 0 0 1 = -1 | addShower 0 -1 1 = -1 | addShower 0 1 1 = 0 | shower 0 1 = 1
+            """);
+        Script.play("length: 500 at the most", """
+            addShower 0 501 1 = -1 | addShower 0 500 1 = 0 | shower 0 1 = 500 | shower 0 3 = 500
+            """);
+        Script.play("rate: 1 at the least", """
+            addShower 0 1 0 = -1 | addShower 0 1 -1 = -1 | addShower 0 1 1 = 0 | count 13 = 1
+            """);
         Script.play("rate: 200 at the most", "addShower 0 1 201 = -1 | addShower 0 1 200 = 0 | count 13 = 200");
         Script.play("an end behind the tick 5000 is no fault", "addShower 5000 500 200 = 0 | addShower 4999 500 1 = 0");
     }
@@ -119,7 +147,9 @@ public final class RainEdgesTest {
             addShower 5 3 7 = 0 | run 4 = 0 | count 13 = 0 | run 1 = 0 | count 13 = 7 | run 2 = 0 | count 13 = 7
             account 0 = 14 | run 1 = 0 | count 13 = 0 | account 0 = 21 | run 9 = 0 | account 0 = 21
             """);
-        Script.play("it rains in one tick with the length 1", "addShower 0 1 7 = 0 | count 13 = 7 | run 1 = 0 | count 13 = 0 | account 0 = 7");
+        Script.play("it rains in one tick with the length 1", """
+            addShower 0 1 7 = 0 | count 13 = 7 | run 1 = 0 | count 13 = 0 | account 0 = 7
+            """);
         Script.play("it rains in 500 ticks with the length 500", """
             set 0 500 = 100 | addShower 0 500 1 = 0 | run 499 = 0 | count 1 = 1 | count 13 = 1 | shower 0 3 = 1
             run 1 = 0 | count 1 = 0 | count 13 = 0 | account 0 = 500
@@ -135,7 +165,9 @@ public final class RainEdgesTest {
             addShower 0 9 1 = 0 | addShower 1 1 2 = 1 | addShower 5 1 3 = 2 | run 2 = 0 | count 1 = 2 | shower 0 2 = 1 | shower 1 2 = 3
             """);
         Script.play("all 12 are removed in one tick", showers(12, 0) + "run 1 = 0 | count 1 = 0 | account 0 = 12");
-        Script.play("all 12 are removed in the midst of a run", showers(12, 3) + "run 9 = 0 | count 1 = 0 | account 0 = 12");
+        Script.play("all 12 are removed in the midst of a run", showers(12, 3) + """
+            run 9 = 0 | count 1 = 0 | account 0 = 12
+            """);
     }
 
     private static void rainOfTick() {
@@ -153,53 +185,83 @@ public final class RainEdgesTest {
     }
 
     private static void cancel() {
-        Script.play("its begin is the present tick", "run 3 = 0 | addShower 3 5 1 = 0 | cancel 0 = 0 | count 1 = 0 | count 13 = 0");
-        Script.play("its begin is later than the present tick by one", "run 3 = 0 | addShower 4 5 1 = 0 | cancel 0 = 0 | count 1 = 0");
-        Script.play("its begin is one tick ago", "addShower 0 5 1 = 0 | run 1 = 0 | cancel 0 = -2 | count 1 = 1 | shower 0 3 = 4");
+        Script.play("its begin is the present tick", """
+            run 3 = 0 | addShower 3 5 1 = 0 | cancel 0 = 0 | count 1 = 0 | count 13 = 0
+            """);
+        Script.play("its begin is later than the present tick by one", """
+            run 3 = 0 | addShower 4 5 1 = 0 | cancel 0 = 0 | count 1 = 0
+            """);
+        Script.play("its begin is one tick ago", """
+            addShower 0 5 1 = 0 | run 1 = 0 | cancel 0 = -2 | count 1 = 1 | shower 0 3 = 4
+            """);
         Script.play("NOT_POSSIBLE in its last tick, INVALID_ARGUMENT behind it", """
             addShower 0 5 1 = 0 | run 4 = 0 | cancel 0 = -2 | run 1 = 0 | cancel 0 = -1
             """);
-        Script.play("cancel: no shower with this number", "cancel 0 = -1 | addShower 0 1 1 = 0 | cancel 1 = -1 | cancel -1 = -1 | count 1 = 1");
-        Script.play("cancel: the number 12", showers(12, 5) + "cancel 12 = -1 | cancel 11 = 11 | cancel 11 = -1 | cancel 10 = 10");
-        Script.play("returns the number of showers that remain", showers(2, 5) + "cancel 0 = 1 | cancel 0 = 0 | cancel 0 = -1");
+        Script.play("cancel: no shower with this number", """
+            cancel 0 = -1 | addShower 0 1 1 = 0 | cancel 1 = -1 | cancel -1 = -1 | count 1 = 1
+            """);
+        Script.play("cancel: the number 12", showers(12, 5) + """
+            cancel 12 = -1 | cancel 11 = 11 | cancel 11 = -1 | cancel 10 = 10
+            """);
+        Script.play("returns the number of showers that remain", showers(2, 5) + """
+            cancel 0 = 1 | cancel 0 = 0 | cancel 0 = -1
+            """);
         Script.play("the first, one between and the last cancelled", """
             addShower 1 1 1 = 0 | addShower 2 1 2 = 1 | addShower 3 1 3 = 2 | addShower 4 1 4 = 3 | addShower 5 1 5 = 4
             cancel 4 = 4 | shower 3 2 = 4 | cancel 0 = 3 | shower 0 2 = 2 | cancel 1 = 2 | shower 0 2 = 2 | shower 1 2 = 4
             """);
-        Script.play("a cancelled shower does not rain", "addShower 0 5 9 = 0 | cancel 0 = 0 | run 9 = 0 | account 0 = 0");
+        Script.play("a cancelled shower does not rain", """
+            addShower 0 5 9 = 0 | cancel 0 = 0 | run 9 = 0 | account 0 = 0
+            """);
     }
 
     private static void shower() {
-        Script.play("shower: no shower with this number", "shower 0 0 = -1 | addShower 0 1 1 = 0 | shower 1 0 = -1 | shower -1 0 = -1");
-        Script.play("shower: what, 0 to 3", "addShower 1 2 3 = 0 | shower 0 -1 = -1 | shower 0 0 = 1 | shower 0 3 = 2 | shower 0 4 = -1");
-        Script.play("ticks still to come before its begin", "addShower 3 4 5 = 0 | shower 0 3 = 4 | run 2 = 0 | shower 0 3 = 4");
+        Script.play("shower: no shower with this number", """
+            shower 0 0 = -1 | addShower 0 1 1 = 0 | shower 1 0 = -1 | shower -1 0 = -1
+            """);
+        Script.play("shower: what, 0 to 3", """
+            addShower 1 2 3 = 0 | shower 0 -1 = -1 | shower 0 0 = 1 | shower 0 3 = 2 | shower 0 4 = -1
+            """);
+        Script.play("ticks still to come before its begin", """
+            addShower 3 4 5 = 0 | shower 0 3 = 4 | run 2 = 0 | shower 0 3 = 4
+            """);
         Script.play("ticks still to come at its begin", "addShower 3 4 5 = 0 | run 3 = 0 | shower 0 3 = 4");
         Script.play("ticks still to come behind its first tick", "addShower 3 4 5 = 0 | run 4 = 0 | shower 0 3 = 3");
-        Script.play("ticks still to come in its last tick", "addShower 3 4 5 = 0 | run 6 = 0 | shower 0 3 = 1 | shower 0 0 = 3 | shower 0 1 = 4");
+        Script.play("ticks still to come in its last tick", """
+            addShower 3 4 5 = 0 | run 6 = 0 | shower 0 3 = 1 | shower 0 0 = 3 | shower 0 1 = 4
+            """);
     }
 
     private static void run() {
         Script.play("ticks: 1 at the least", "run 0 = -1 | run -1 = -1 | count 0 = 0 | run 1 = 0 | count 0 = 1");
         Script.play("ticks: 1000 at the most", "run 1001 = -1 | count 0 = 0 | run 1000 = 0 | count 0 = 1000");
-        Script.play("run: INVALID_ARGUMENT rather than LIMIT_REACHED", TO_5000 + "run 0 = -1 | run 1001 = -1 | run 1 = -3 | run 1000 = -3");
+        Script.play("run: INVALID_ARGUMENT rather than LIMIT_REACHED", TO_5000 + """
+            run 0 = -1 | run 1001 = -1 | run 1 = -3 | run 1000 = -3
+            """);
         Script.play("the number of tips: none", "addShower 0 1 109 = 0 | run 1 = 0");
         Script.play("the number of tips: one", "addShower 0 1 110 = 0 | run 1 = 1");
         Script.play("the number of tips: in each tick", """
             set 1 0 = 2 | set 2 0 = 10 | addShower 0 500 100 = 0 | addShower 500 500 100 = 1 | run 1000 = 1000
             count 2 = 60 | mark 0 0 = 940 | mark 59 0 = 999 | account 1 = 100000
             """);
-        Script.play("the number of tips: not those before", "set 1 0 = 2 | addShower 0 2 110 = 0 | run 1 = 1 | run 1 = 1 | run 1 = 0");
+        Script.play("the number of tips: not those before", """
+            set 1 0 = 2 | addShower 0 2 110 = 0 | run 1 = 1 | run 1 = 1 | run 1 = 0
+            """);
     }
 
     private static void undo() {
         Script.play("NOT_POSSIBLE if the history is empty", "undo = -2 | count 11 = 0");
         Script.play("one state, then none", "wind = 500 | undo = 0 | undo = -2 | undo = -2");
-        Script.play("the number of states that are left", showers(3, 9) + "undo = 2 | undo = 1 | undo = 0 | count 1 = 0 | undo = -2");
+        Script.play("the number of states that are left", showers(3, 9) + """
+            undo = 2 | undo = 1 | undo = 0 | count 1 = 0 | undo = -2
+            """);
         Script.play("the latest state first", """
             set 0 20 = 100 | set 0 30 = 20 | set 0 40 = 30 | undo = 2 | count 20 = 30 | undo = 1 | count 20 = 20
             undo = 0 | count 20 = 100
             """);
-        Script.play("undo is no change", "set 0 20 = 100 | set 0 30 = 20 | undo = 1 | count 11 = 1 | undo = 0 | count 11 = 0 | count 20 = 100");
+        Script.play("undo is no change", """
+            set 0 20 = 100 | set 0 30 = 20 | undo = 1 | count 11 = 1 | undo = 0 | count 11 = 0 | count 20 = 100
+            """);
     }
 
     private static void history() {
@@ -275,12 +337,23 @@ public final class RainEdgesTest {
             addShower 0 1 110 = 0 | run 1 = 1 | count 6 = 2 | run 1 = 0 | count 6 = 1 | undo = 2 | count 6 = 2 | count 2 = 1
             undo = 1 | count 6 = 0 | count 2 = 0 | account 1 = 0
             """);
+        Script.play("undone: what dried of the bucket", """
+            set 4 5 = 0 | addShower 0 1 30 = 0 | run 2 = 0 | account 4 = 6 | count 5 = 15 | run 2 = 0 | account 4 = 18 | count 5 = 5
+            undo = 3 | account 4 = 6 | count 5 = 15 | count 4 = 9
+            """);
+        Script.play("undone: the places and what was over of 60 marks", """
+            set 1 0 = 2 | set 2 0 = 10 | addShower 1 60 101 = 0 | addShower 61 4 150 = 1 | run 61 = 60 | mark 0 1 = 1 | run 4 = 4
+            mark 0 1 = 5 | mark 59 1 = 64 | mark 59 2 = 50 | mark 56 2 = 50 | mark 55 2 = 1
+            undo = 4 | mark 0 1 = 1 | mark 59 1 = 60 | mark 59 2 = 1 | mark 56 2 = 1
+            """);
         Script.play("undone: the oldest of 60 marks", """
             set 1 0 = 2 | set 2 0 = 10 | addShower 0 62 100 = 0 | run 60 = 60 | run 1 = 1 | mark 0 0 = 1 | run 1 = 1 | mark 0 0 = 2
             undo = 4 | mark 0 0 = 1 | mark 59 0 = 60 | undo = 3 | mark 0 0 = 0 | mark 59 0 = 59 | count 2 = 60
             undo = 2 | count 2 = 0
             """);
         Script.play("everything but the text", "write abc = 3 | wind = 500 | write d = 4 | undo = 0 | count 12 = 4");
-        Script.play("everything but the text, when it was emptied", "write abc = 3 | wind = 500 | clearText = 3 | undo = 0 | count 12 = 0");
+        Script.play("everything but the text, when it was emptied", """
+            write abc = 3 | wind = 500 | clearText = 3 | undo = 0 | count 12 = 0
+            """);
     }
 }
